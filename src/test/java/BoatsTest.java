@@ -7,6 +7,7 @@ public final class BoatsTest {
         boatOrdinary();
         boatWrong();
         boatFull();
+        boatInPlaceOfOneUndone();
         load();
         loadWrong();
         boatOfNew();
@@ -78,6 +79,27 @@ public final class BoatsTest {
         Check.due("17: all that arrived as a set", x.pound(3, 2), 32767);
         Check.due("2: room for one after undo", x.boat(1, 0, 1, 5), 15);
         Check.due("2: and for no other", x.boat(1, 0, 1, 5), -3);
+        CanalSteps y = new CanalSteps();
+        for (int i = 0; i < 16; i++) {
+            y.boat(1, 2, 3, 5);
+        }
+        Check.due("7: a queue of all boats", y.pass(99), 16);
+        Check.due("16: empty then", y.lock(2, 1) + y.lock(2, 3), -5);
+    }
+
+    private static void boatInPlaceOfOneUndone() {
+        CanalSteps x = new CanalSteps();
+        x.keep();
+        x.boat(1, 0, 1, 20);
+        x.pass(1);
+        x.restore();
+        Check.due("2: the number again", x.boat(3, 2, 0, 9), 0);
+        tell(x, 0, 3, 9, 2, 0, 0, 0, 1, 0, 0, -5);
+        x.pass(2);
+        tell(x, 0, 3, 9, 2, 0, 2, 0, 1, 0, 1, -5);
+        x.restore();
+        Check.due("2: and again", x.boat(4, 5, 4, 7), 0);
+        tell(x, 0, 4, 7, 5, 4, 0, 0, 4, 0, 0, -5);
     }
 
     private static void load() {
@@ -156,6 +178,7 @@ public final class BoatsTest {
         Check.due("15: one passage", x.boatOf(1, 8), 1);
         x.set(1, 1);
         Check.due("6: one at a time", x.pass(2) + x.boatOf(2, 4), 1);
+        Check.due("17: the one piece is in the next pound", x.pound(1, 1), 4);
     }
 
     private static void boatOfWrong() {

@@ -7,6 +7,7 @@ public final class TextsTest {
         faultChangesNothing();
         allowed();
         perform();
+        performAnother();
         performStays();
         stopsOfEachKind();
         stopIsTheLatest();
@@ -166,6 +167,27 @@ public final class TextsTest {
         y.turnLock(4);
         y.boat(1, 1, 0, 60);
         Check.samePicture("10: as by hand", x, Check.picture(y));
+    }
+
+    private static void performAnother() {
+        CanalSteps x = new CanalSteps();
+        Check.write(x, "x0;r2:0>1@9;.5");
+        Check.due("10: a text", x.perform(), 3);
+        Check.write(x, ".7;b0>1@9;b0>1@9;x3");
+        Check.due("10: another in its place", x.perform(), 4);
+        Check.due("23: its ticks", x.count(0), 12);
+        Check.due("23: its boats", x.count(1), 3);
+        Check.due("16: its lock", x.lock(3, 0), 1);
+        Check.write(x, "x");
+        Check.due("10: nothing is left behind the new text", x.perform(), -101);
+        Check.write(x, ".1");
+        Check.due("10: nor a digit", x.perform(), 1);
+        Check.write(x, "b0>1@2");
+        Check.due("10: other things at the same places", x.perform() * 100 + x.count(1), 104);
+        Check.write(x, "b0>");
+        Check.due("10: nor a pound", x.perform(), -103);
+        Check.write(x, "b0");
+        Check.due("10: nor another sign", x.perform(), -102);
     }
 
     private static void performStays() {

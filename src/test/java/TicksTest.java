@@ -13,6 +13,7 @@ public final class TicksTest {
         waterIsTakenInOrder();
         springAndWeirs();
         bestTurn();
+        bestTurnOfTheLockZero();
         bestTurnOfSeveral();
         bestTurnWithinForty();
         bestTurnThatIsNotPossible();
@@ -21,6 +22,7 @@ public final class TicksTest {
         ifTicksOfLostWater();
         ifTicksWrong();
         count();
+        countOfTheLockZero();
         countWrong();
         Check.end();
     }
@@ -178,6 +180,17 @@ public final class TicksTest {
             x.turnLock(lock);
             Check.due("21: two with it", x.ifTicks(40, 0), 2);
         }
+    }
+
+    private static void bestTurnOfTheLockZero() {
+        CanalSteps x = new CanalSteps();
+        x.boat(1, 2, 3, 10);
+        x.pass(1);
+        x.turnLock(0);
+        x.boat(1, 1, 0, 60);
+        x.boat(1, 0, 1, 10);
+        Check.due("21: the other side is let go", x.bestTurn(0), 0);
+        Check.due("21: those that have arrived before do not count", x.bestTurn(1), 1);
     }
 
     // The one boat arrives anyway; the other lacks the water that the chamber of the lock holds.
@@ -350,6 +363,16 @@ public final class TicksTest {
         for (int what = 0; what < due.length; what++) {
             Check.due("23: count(" + what + ")", x.count(what), due[what]);
         }
+    }
+
+    private static void countOfTheLockZero() {
+        CanalSteps x = new CanalSteps();
+        x.boat(1, 0, 1, 10);
+        x.pass(1);
+        Check.due("23: passages", x.count(4), 1);
+        Check.due("23: fillings", x.count(5), 1);
+        Check.due("23: chambers that are high", x.count(8), 1);
+        Check.due("22: passages", x.ifTicks(9, 1), 0);
     }
 
     private static void countWrong() {

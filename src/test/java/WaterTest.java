@@ -249,12 +249,18 @@ public final class WaterTest {
         bothWays(x, 290);
         x.setDepth(1, 10);
         bothWays(x, 260);
-        x.turnLock(4);
-        bothWays(x, 260);
+        for (int lock = 0; lock < 5; lock++) {
+            x.turnLock(lock);
+            bothWays(x, 260);
+        }
+        for (int lock = 3; lock >= 0; lock--) {
+            x.turnLock(lock);
+            bothWays(x, 260 - (lock == 0 ? 6 : 0));
+        }
         x.pass(1);
-        bothWays(x, 264);
+        bothWays(x, 258);
         x.undo();
-        bothWays(x, 260);
+        bothWays(x, 254);
         x.set(2, 20);
         x.pass(99);
         bothWays(x, 546);
