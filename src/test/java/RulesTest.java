@@ -8,10 +8,11 @@ import java.util.regex.Pattern;
 /** The rules of LANGUAGE.md that can be seen in the source; its path is the first argument. */
 public final class RulesTest {
     private static final String[] BANNED = {
-        "\\b(throw|throws|try|catch|finally|synchronized|assert|import|package|native|volatile|transient)\\b",
-        "->|::|@\\w", "\\b(protected|var|yield|enum|record|instanceof)\\b", "\\bnew\\s+\\w+\\s*\\([^)]*\\)\\s*\\{",
+        "\\b(throw|throws|try|catch|finally|synchronized|assert|package|protected|native|volatile|transient|hashCode)\\b",
+        "\\bimport\\s+(?!java\\.util\\.(ArrayList|List|Arrays|Iterator);)", "::", "(?m)^(?!\\s*(case|default)\\b).*->",
+        "@(?!Override\\b)\\w", "\\bnew\\s+\\w+\\s*\\([^)]*\\)\\s*\\{",
         "\\b(Object|Throwable|Exception|Error|System\\.(?!arraycopy)\\w+|Thread|Runtime|Class)\\b",
-        "\\b(equals|hashCode|toString)\\b", "\\bwhile\\s*\\(\\s*true|for\\s*\\(\\s*;", "\\[\\]\\s*\\[\\]\\s*\\[\\]"};
+        "\\bwhile\\s*\\(\\s*true|\\bfor\\s*\\(\\s*;\\s*;", "\\[\\]\\s*\\[\\]\\s*\\[\\]"};
     private static final int MOST_LINES = 60;
     private static final int MOST_PARAMETERS = 7;
     private static final int MOST_CLASSES = 12;
@@ -32,7 +33,7 @@ public final class RulesTest {
                 matcher.reset().find() ? 1 : 0, 0);
         }
         methods(code);
-        classes(code);
+        classes();
         Check.end();
     }
 
@@ -51,20 +52,12 @@ public final class RulesTest {
             int parameters = method.group(3).isEmpty() ? 0 : method.group(3).split(",").length;
             Check.due(method.group(2) + " has " + parameters + " parameters", parameters <= MOST_PARAMETERS ? 1 : 0, 1);
         }
-        Check.due("methods were found", found > 30 ? 1 : 0, 1);
+        Check.due("methods were found", found > 20 ? 1 : 0, 1);
     }
 
-    private static void classes(String code) {
-        Matcher inside = Pattern.compile("(?m)^(.*)\\bclass (\\w+)").matcher(code);
-        int found = 0;
-        while (inside.find()) {
-            found++;
-            String due = found == 1 ? "public final " : "    private static final ";
-            Check.due("how the class " + inside.group(2) + " is declared", inside.group(1).equals(due) ? 1 : 0, 1);
-        }
-        Check.due(found + " classes", found <= MOST_CLASSES ? 1 : 0, 1);
+    private static void classes() {
         Class<?>[] all = CanalSteps.class.getDeclaredClasses();
-        Check.due("all classes inside were seen", all.length, found - 1);
+        Check.due("classes: " + (all.length + 1), all.length + 1 <= MOST_CLASSES ? 1 : 0, 1);
         fields(CanalSteps.class);
         for (Class<?> one : all) {
             fields(one);
