@@ -102,15 +102,21 @@ public final class OneTickTest {
         Check.due("the other ones rested", high.count(5) * 10 + high.count(8), 65);
     }
 
+    // The lock 2 is open to a boat that goes up from the pound 2 (1), or down from the pound 3 (0); both have 40.
+    private static CanalSteps openForTheWay(int up) {
+        CanalSteps x = Check.withoutSpring();
+        if (up == 0) {
+            x.turnLock(2);
+            x.setDepth(3, 40);
+        }
+        return x;
+    }
+
     private static void firstGoesIfAfloat() {
         Check.says(0, "If the chamber is open to the side of that queue, the first boat of it goes, "
             + "if it does not lie aground,");
         for (int up = 0; up <= 1; up++) {
-            CanalSteps x = Check.withoutSpring();
-            if (up == 0) {
-                x.turnLock(2);
-                x.setDepth(3, 40);
-            }
+            CanalSteps x = openForTheWay(up);
             x.boat(1, 3 - up, 2 + up, 41);
             Check.due("aground by one", x.pass(9), 0);
             Check.due("the chamber is as it was", x.lock(2, 0), 1 - up);
@@ -221,11 +227,7 @@ public final class OneTickTest {
     private static void restsIfTheBoatCannotGo() {
         Check.says(0, "If the boat cannot go, the lock rests.");
         for (int up = 0; up <= 1; up++) {
-            CanalSteps x = Check.withoutSpring();
-            if (up == 0) {
-                x.turnLock(2);
-                x.setDepth(3, 40);
-            }
+            CanalSteps x = openForTheWay(up);
             x.boat(1, 3 - up, 2 + up, 41);
             x.boat(1, 2 + up, 3 - up, 5);
             Check.due("the other one is not let through", x.pass(9), 0);
