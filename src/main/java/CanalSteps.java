@@ -126,10 +126,11 @@ public final class CanalSteps {
     // ---- history
 
     public int undo() {
-        if (history.size == 0) {
+        Canal latest = history.takeLatest();
+        if (latest == null) {
             return NONE;
         }
-        canal.copyFrom(history.takeLatest());
+        canal.copyFrom(latest);
         return history.size;
     }
 
@@ -166,10 +167,8 @@ public final class CanalSteps {
         if (!canal.knowsBoat(boat)) {
             return UNKNOWN;
         }
-        if (canal.boats[boat].hasArrived()) {
-            return HAS_ARRIVED;
-        }
         trial.copyFrom(canal);
+        // Below 0 for a boat that has arrived: no lock works then.
         int turn = trial.boats[boat].lockNumber();
         for (int k = 0; k < turn; k++) {
             trial.workLock(k);
@@ -468,7 +467,10 @@ public final class CanalSteps {
             boat.goal = to;
             boat.comeTo(from);
             boatCount++;
-            queueOf(boat).join(number);
+            Queue queue = queueOf(boat);
+            if (queue != null) {
+                queue.join(number);
+            }
             return number;
         }
 
@@ -555,8 +557,9 @@ public final class CanalSteps {
                 return;
             }
             Queue queue = lock.isHigh() ? lock.above : lock.below;
+            // An empty queue answers NONE, and that is no boat.
             int number = queue.first();
-            if (number == NONE) {
+            if (!knowsBoat(number)) {
                 turnChamber(k);
             } else if (!isAground(boats[number])) {
                 turnChamber(k);
@@ -575,11 +578,12 @@ public final class CanalSteps {
             queue.dropFirst();
             boat.pound = boat.nextPound();
             boat.through = 0;
-            if (boat.hasArrived()) {
+            Queue next = queueOf(boat);
+            if (next == null) {
                 boat.arrivedAt = tick;
                 arrived++;
             } else {
-                queueOf(boat).join(number);
+                next.join(number);
             }
         }
 
@@ -621,26 +625,37 @@ public final class CanalSteps {
             return isWithin(number, 0, boatCount - 1);
         }
 
-        // Only for a boat that has not arrived: one in its goal is in no queue.
+        /** The queue in which a boat is due, null if it has arrived. */
         Queue queueOf(Boat boat) {
-            return boat.goal > boat.pound ? locks[boat.pound].below : locks[boat.pound - 1].above;
+            if (boat.goal > boat.pound) {
+                return locks[boat.pound].below;
+            }
+            return boat.goal < boat.pound ? locks[boat.pound - 1].above : null;
+        }
+
+        int placeInQueue(int number) {
+            Queue queue = queueOf(boats[number]);
+            return queue == null ? NONE : queue.placeOf(number);
         }
 
         boolean isAground(Boat boat) {
             return Math.min(depths[boat.pound], depths[boat.nextPound()]) < boat.draught;
         }
 
-        /** Why a boat that has not arrived stays, when it is the turn of its lock. */
+        /** Why a boat stays, when it is the turn of its lock. */
         int reasonNow(int number) {
             Boat boat = boats[number];
-            boolean goesUp = boat.goal > boat.pound;
             int k = boat.lockNumber();
+            if (k == NONE) {
+                return HAS_ARRIVED;
+            }
             if (isAground(boat)) {
                 return IS_AGROUND;
             }
-            if (queueOf(boat).first() != number) {
+            if (placeInQueue(number) > 0) {
                 return IS_BEHIND;
             }
+            boolean goesUp = boat.goal > boat.pound;
             if (locks[k].isHigh() == goesUp) {
                 return IS_SHUT_OUT;
             }
@@ -657,7 +672,7 @@ public final class CanalSteps {
                 case 4: return boat.through;
                 case 5: return boat.hasArrived() ? 1 : 0;
                 case 6: return boat.lockNumber();
-                case 7: return boat.hasArrived() ? NONE : queueOf(boat).placeOf(number);
+                case 7: return placeInQueue(number);
                 case 8: return boat.passages;
                 case 9: return boat.arrivedAt;
                 default: return BAD_VALUE;
@@ -800,8 +815,11 @@ public final class CanalSteps {
             size--;
         }
 
-        // Only where the size is not 0.
+        /** Removes the latest state and answers it, null if there is none. */
         Canal takeLatest() {
+            if (size == 0) {
+                return null;
+            }
             size--;
             return states[size];
         }
