@@ -3,7 +3,7 @@ import java.lang.reflect.Field;
 import java.lang.reflect.InvocationTargetException;
 import java.lang.reflect.Method;
 
-/** That the parts inside look before they use an index or a reference, whoever calls them. */
+/** That the parts inside look themselves at an empty history, an empty or full queue, a boat that has arrived. */
 public final class GuardsTest {
     private static final int DONE = 1;
     private static final int THREW = 0;
